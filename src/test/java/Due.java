@@ -4,6 +4,8 @@ final class Due {
     static final String ILLEGAL_STATE = "IllegalStateException";
     static final String OUT_OF_BOUNDS = "IndexOutOfBoundsException";
 
+    private static String sentence = "";
+    private static int sentences = 0;
     private static int asked = 0;
     private static int wrong = 0;
 
@@ -11,7 +13,22 @@ final class Due {
         void make();
     }
 
+    interface CallOf {
+        void make(ShadowSociety society);
+    }
+
+    /** Sets up a society, and sets up just the same one when it is asked again. */
+    interface Scene {
+        ShadowSociety set();
+    }
+
     private Due() {
+    }
+
+    /** The sentence of the document that the next answers are about; it is printed with each wrong one. */
+    static void sentence(String words) {
+        sentence = words;
+        sentences++;
     }
 
     static void answer(String call, long got, long want) {
@@ -37,7 +54,18 @@ final class Due {
         answer("digest() behind the refused " + call, society.digest(), before);
     }
 
-    private static String thrownBy(Call made) {
+    /** As above, beside a society without the refused call: nothing differs then, nor a day later. */
+    static void refusal(Scene scene, String call, String exception, CallOf made) {
+        ShadowSociety refused = scene.set();
+        ShadowSociety untouched = scene.set();
+        answer(call + " throws", thrownBy(() -> made.make(refused)), exception);
+        answer("what there is behind the refused " + call, Picture.of(refused), Picture.of(untouched));
+        refused.pass(24);
+        untouched.pass(24);
+        answer("what there is a day behind the refused " + call, Picture.of(refused), Picture.of(untouched));
+    }
+
+    static String thrownBy(Call made) {
         try {
             made.make();
             return "nothing";
@@ -58,13 +86,14 @@ final class Due {
         asked++;
         if (!right) {
             wrong++;
-            System.out.println(call + " answered " + got + ", due is " + want);
+            System.out.println((sentence.isEmpty() ? "" : "\"" + sentence + "\": ") + call + " answered " + got
+                + ", due is " + want);
         }
     }
 
     static void end() {
-        String right = asked + " answers are as due";
-        System.out.println(wrong == 0 ? right : wrong + " of " + asked + " answers are not as due");
+        String all = asked + " answers" + (sentences == 0 ? "" : " to " + sentences + " sentences");
+        System.out.println(wrong == 0 ? all + " are as due" : wrong + " of " + all + " are not as due");
         if (wrong != 0) {
             System.exit(1);
         }
