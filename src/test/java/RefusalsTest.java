@@ -299,7 +299,8 @@ public final class RefusalsTest {
         Due.refusal(Scenes::four, "giveBack(1) of who has no hat", Due.ILLEGAL_STATE, s -> s.giveBack(1));
         Due.refusal(Scenes::busy, "giveBack(2) with the own hat lent", Due.ILLEGAL_STATE, s -> s.giveBack(2));
         Due.refusal(RefusalsTest::givenBack, "giveBack(1) twice", Due.ILLEGAL_STATE, s -> s.giveBack(1));
-        Due.refusal(RefusalsTest::behindTheAudit, "giveBack(1) behind the audit", Due.ILLEGAL_STATE, s -> s.giveBack(1));
+        Due.refusal(RefusalsTest::behindTheAudit, "giveBack(1) behind the audit", Due.ILLEGAL_STATE,
+            s -> s.giveBack(1));
         Due.answer("giveBack(1)", Scenes.busy().giveBack(1), 2);
     }
 

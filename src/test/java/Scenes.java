@@ -1,5 +1,8 @@
-/** Societies to begin with, that several tests set up. */
+/** Societies to begin with, that several tests set up, and the sun above them. */
 final class Scenes {
+    /** The steps of the sun at each hour of the day; none without sun, and none at 12. */
+    static final int[] STEPS = {0, 0, 0, 0, 0, 0, 0, 5, 4, 3, 2, 1, 0, 1, 2, 3, 4, 5, 0, 0, 0, 0, 0, 0};
+
     private Scenes() {
     }
 

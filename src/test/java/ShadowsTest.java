@@ -1,8 +1,5 @@
 /** Promises 22 to 26: shadows, certificates, and the longest shadow. What the calls refuse stands in RefusalsTest. */
 public final class ShadowsTest {
-    /** The steps of the sun at each hour of the day; none without sun, and none at 12. */
-    private static final int[] STEPS = {0, 0, 0, 0, 0, 0, 0, 5, 4, 3, 2, 1, 0, 1, 2, 3, 4, 5, 0, 0, 0, 0, 0, 0};
-
     public static void main(String[] args) {
         shadowAtEachHour();
         shadowWithLampAndHats();
@@ -24,7 +21,7 @@ public final class ShadowsTest {
         s.join(40, 7);
         s.join(60, 0);
         for (int hour = 0; hour < 48; hour++) {
-            int steps = STEPS[hour % 24];
+            int steps = Scenes.STEPS[hour % 24];
             Due.answer("shadowOf(0) at " + hour, s.shadowOf(0), 47 * steps / 2);
             Due.answer("shadowOf(1) at " + hour, s.shadowOf(1), 60 * steps / 2);
             s.pass(1);
@@ -78,9 +75,9 @@ public final class ShadowsTest {
         s.borrow(0, 2);
         s.pass(10);
         for (int hour = 0; hour < 24; hour++) {
-            Due.answer("honestShadow(0, " + hour + ")", s.honestShadow(0, hour), 47 * STEPS[hour] / 2);
-            Due.answer("honestShadow(1, " + hour + ")", s.honestShadow(1, hour), 60 * STEPS[hour] / 2);
-            Due.answer("honestShadow(2, " + hour + ")", s.honestShadow(2, hour), 75 * STEPS[hour] / 2);
+            Due.answer("honestShadow(0, " + hour + ")", s.honestShadow(0, hour), 47 * Scenes.STEPS[hour] / 2);
+            Due.answer("honestShadow(1, " + hour + ")", s.honestShadow(1, hour), 60 * Scenes.STEPS[hour] / 2);
+            Due.answer("honestShadow(2, " + hour + ")", s.honestShadow(2, hour), 75 * Scenes.STEPS[hour] / 2);
         }
         Due.answer("hour(), nothing is changed", s.hour(), 10);
     }

@@ -1,8 +1,5 @@
 /** The sentences of "Terms" that name an edge: hours, sun, hats, shadows, certificates and the audit. */
 public final class TermsTest {
-    /** The steps of the sun at each hour of the day; none without sun, and none at 12. */
-    private static final int[] STEPS = {0, 0, 0, 0, 0, 0, 0, 5, 4, 3, 2, 1, 0, 1, 2, 3, 4, 5, 0, 0, 0, 0, 0, 0};
-
     public static void main(String[] args) {
         cutTowardsZero();
         hourOfDayStartsAnew();
@@ -180,15 +177,16 @@ public final class TermsTest {
     }
 
     private static void lampAtEachHour() {
-        Due.sentence("Shadow: the natural one, and 3 times the brightness of the lamp, added, at each hour of the day.");
+        Due.sentence(
+            "Shadow: the natural one, and 3 times the brightness of the lamp, added, at each hour of the day.");
         ShadowSociety s = new ShadowSociety();
         s.join(40, 0);
         s.join(40, 0);
         s.buyLamp(0, 1);
         s.buyLamp(1, 9);
         for (int hour = 0; hour < 24; hour++) {
-            Due.answer("shadowOf(0) at " + hour, s.shadowOf(0), 20 * STEPS[hour] + 3);
-            Due.answer("shadowOf(1) at " + hour, s.shadowOf(1), 20 * STEPS[hour] + 27);
+            Due.answer("shadowOf(0) at " + hour, s.shadowOf(0), 20 * Scenes.STEPS[hour] + 3);
+            Due.answer("shadowOf(1) at " + hour, s.shadowOf(1), 20 * Scenes.STEPS[hour] + 27);
             s.pass(1);
             if (s.hour() == 12) {
                 s.buyLamp(0, 1);
@@ -208,7 +206,7 @@ public final class TermsTest {
         int[] withOwnHat = {46, 60, 65, 33};
         for (int m = 0; m < 4; m++) {
             for (int hour = 0; hour < 24; hour++) {
-                int due = withOwnHat[m] * STEPS[hour] / 2;
+                int due = withOwnHat[m] * Scenes.STEPS[hour] / 2;
                 Due.answer("honestShadow(" + m + ", " + hour + ")", s.honestShadow(m, hour), due);
             }
         }
@@ -244,7 +242,7 @@ public final class TermsTest {
                 Due.answer("isHonest(0) of " + hour + ", " + later + " hours later", s.isHonest(0), true);
                 s.pass(1);
             }
-            Due.answer("certified(0) of " + hour, s.certified(0), 23 * STEPS[hour]);
+            Due.answer("certified(0) of " + hour, s.certified(0), 23 * Scenes.STEPS[hour]);
         }
     }
 
