@@ -44,6 +44,13 @@ public final class FaceTest {
     };
 
     public static void main(String[] args) {
+        methodsOfTheDocumentAlone();
+        allElseIsHidden();
+        theClassAndItsConstructor();
+        Due.end();
+    }
+
+    private static void methodsOfTheDocumentAlone() {
         Set<String> due = new HashSet<>(Arrays.asList(FACE));
         Set<String> publicNames = new HashSet<>();
         for (Method method : ShadowSociety.class.getDeclaredMethods()) {
@@ -58,16 +65,26 @@ public final class FaceTest {
             boolean clash = hidden && publicNames.contains(method.getName());
             Due.answer("private with a public name: " + method, clash, false);
         }
+    }
+
+    private static void allElseIsHidden() {
         for (Field field : ShadowSociety.class.getDeclaredFields()) {
             Due.answer("private: " + field, Modifier.isPrivate(field.getModifiers()), true);
         }
+        for (Class<?> inside : ShadowSociety.class.getDeclaredClasses()) {
+            int shown = inside.getModifiers() & (Modifier.PUBLIC | Modifier.PROTECTED);
+            Due.answer("public or protected: " + inside, shown != 0, false);
+            Due.answer("static: " + inside, Modifier.isStatic(inside.getModifiers()), true);
+        }
+    }
+
+    private static void theClassAndItsConstructor() {
         Constructor<?>[] constructors = ShadowSociety.class.getDeclaredConstructors();
         Due.answer("constructors", constructors.length, 1);
         Due.answer("its parameters", constructors[0].getParameterCount(), 0);
         Due.answer("it is public", Modifier.isPublic(constructors[0].getModifiers()), true);
         Due.answer("the class is final", Modifier.isFinal(ShadowSociety.class.getModifiers()), true);
         Due.answer("the class is public", Modifier.isPublic(ShadowSociety.class.getModifiers()), true);
-        Due.end();
     }
 
     private static String signature(Method method) {
